@@ -609,6 +609,9 @@ public final class HyphenRowsPromises {
         pattern(x, 0, "1a1");
         word(x, "aa");
         duePlaces(x, 0, 1);
+        x.ends(0, 0, 0, false);
+        dueDigits(x, 0, "111");
+        duePlaces(x, 0, 1);
         x.ends(0, 2, 3, false);
         word(x, "aaaa");
         duePlaces(x, 0);
