@@ -695,6 +695,12 @@ public final class HyphenRowsBoundaries {
         dueDigits(x, 0, "00");
         more(x, "aab");
         dueDigits(x, 0, "99999");
+        // Nor does anything stand behind the last edge.
+        pattern(x, 0, "7.7b");
+        word(x, "aab");
+        dueDigits(x, 0, "0000");
+        word(x, "a");
+        dueDigits(x, 0, "00");
     }
 
     private static void greatestDigitCounts() {
