@@ -586,16 +586,17 @@ public final class HyphenRowsBoundaries {
             due(i, rowOfTwelve(x, i));
         }
         due(74, pattern(x, 0, ".aaaaaaaaaa"));
-        // 899 are there now: one more is too many for a row of two, and right for a row of one.
+        // 899 are there now: there is room for a row of one, not for a row of two.
         due(FULL, pattern(x, 0, "7a7b7"));
         due(FULL, pattern(x, 0, "7.7b7"));
         due(75, x.patterns());
+        // Rows that are there already take no more room, before and behind the limit.
+        due(74, pattern(x, 0, ".aaaaaaaaaa"));
         due(75, pattern(x, 0, "4b"));
         due(FULL, pattern(x, 0, "7a7"));
         due(76, x.patterns());
         word(x, "ab");
         dueDigits(x, 0, "040");
-        // Rows that are there already take no more room.
         due(75, pattern(x, 0, "2b"));
         due(74, pattern(x, 0, ".aaaaaaaaaa"));
         due(73, rowOfTwelve(x, 73));
@@ -994,13 +995,13 @@ public final class HyphenRowsBoundaries {
         due(1, x.ends(0, 1, 2, false));
         duePlaces(x, 0, 1, 2, 3);
         for (int outside : OUTSIDE) {
-            due(BAD, x.ends(outside, 0, 0, true));
-            due(BAD, x.ends(0, outside, 0, true));
-            due(BAD, x.ends(0, 0, outside, true));
+            due(BAD, x.ends(outside, 3, 1, true));
+            due(BAD, x.ends(0, outside, 1, true));
+            due(BAD, x.ends(0, 3, outside, true));
         }
-        due(BAD, x.ends(2, 0, 0, true));
-        due(BAD, x.ends(0, 21, 0, true));
-        due(BAD, x.ends(0, 0, 21, true));
+        due(BAD, x.ends(2, 3, 1, true));
+        due(BAD, x.ends(0, 21, 1, true));
+        due(BAD, x.ends(0, 3, 21, true));
         due(BAD, x.ends(0, 21, 21, true));
         // A refused call changes neither end, nor whether capitals are left whole.
         duePlaces(x, 0, 1, 2, 3);
